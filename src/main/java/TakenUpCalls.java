@@ -23,7 +23,7 @@ public final class TakenUpCalls {
 
     /** No letter becomes more than two steps. */
     private static final int STEPS = 2 * LETTERS;
-    private static final int NUMBER = 0, ARGUMENT = 1, READ = 2, CALLED = 3, SUM = 4, LEFT_OVER = 5, PRODUCT = 6, LESS = 7;
+    private static final int NUMBER = 0, ARGUMENT = 1, READ = 2, CALLED = 3, SUM = 4, DIFFERENCE = 5, PRODUCT = 6, LESS = 7;
     private static final int CHOICE = 8, SKIP_ON_ZERO = 9, SKIP = 10, END = 11;
 
     private final int[] text = new int[LETTERS];
@@ -43,8 +43,8 @@ public final class TakenUpCalls {
 
     public TakenUpCalls() {
         Pool pool = new Pool();
-        maker = new Maker(scene, pool);
-        trial = new Maker(scene, pool);
+        maker = new Maker(scene, pool, program);
+        trial = new Maker(scene, pool, program);
         addLetter('d');
         addLetter('0');
         addLetter(';');
@@ -75,7 +75,7 @@ public final class TakenUpCalls {
             case 1: return letters;
             case 2: return trace.rootTells();
             case 3: return trace.size;
-            case 4: return freshTelling();
+            case 4: return tellingByItself(scene.aimFunction, scene.aimArgument);
             case 5: return isAlike() ? 1 : 0;
             case 6: return maker.made;
             case 7: return maker.doneAnew;
@@ -211,10 +211,12 @@ public final class TakenUpCalls {
         if (!isImage(i)) {
             return UNKNOWN;
         }
-        if (images[i] == null) {
-            images[i] = new Scene();
+        Scene image = images[i];
+        if (image == null) {
+            image = new Scene();
+            images[i] = image;
         }
-        images[i].become(scene);
+        image.become(scene);
         deeds.forget();
         return 1;
     }
@@ -286,10 +288,6 @@ public final class TakenUpCalls {
         deeds.noteCell(i, held);
         scene.cells[i] = v;
         return held;
-    }
-
-    private int freshTelling() {
-        return tellingByItself(scene.aimFunction, scene.aimArgument);
     }
 
     private int tellingByItself(int f, int argument) {
@@ -551,7 +549,7 @@ public final class TakenUpCalls {
                 case 'x': return openTerm(READ, 0, 1);
                 case 'f': return beginCall();
                 case '+': return openTerm(SUM, 0, 2);
-                case '-': return openTerm(LEFT_OVER, 0, 2);
+                case '-': return openTerm(DIFFERENCE, 0, 2);
                 case '*': return openTerm(PRODUCT, 0, 2);
                 case '<': return openTerm(LESS, 0, 2);
                 case '?': return openTerm(CHOICE, NONE, 3);
@@ -675,8 +673,18 @@ public final class TakenUpCalls {
             lastPart = part;
         }
 
+        /** Of the parts so far that may be taken up, the first of this function and argument. */
+        Call firstSoFar(int f, int a) {
+            for (Call part = partsSoFar; part != null; part = part.next) {
+                if (part.isOf(f, a)) {
+                    return part;
+                }
+            }
+            return null;
+        }
+
         void noteRead(int i, int v) {
-            if (isCell(i)) {
+            if (i >= 0 && i < CELLS) {
                 reads |= 1 << i;
                 held[i] = v;
             }
@@ -758,9 +766,10 @@ public final class TakenUpCalls {
         int doneAnew;
         int gone;
 
-        Maker(Scene ofScene, Pool ofPool) {
+        Maker(Scene ofScene, Pool ofPool, Program ofProgram) {
             scene = ofScene;
             pool = ofPool;
+            program = ofProgram;
         }
 
         void takeProgram(Program told) {
@@ -769,7 +778,7 @@ public final class TakenUpCalls {
 
         Call firstRoot() {
             madeEver = 0;
-            Call root = madeByItself(0, 0);
+            Call root = make(0, 0, 1);
             clearCounts();
             return root;
         }
@@ -786,7 +795,7 @@ public final class TakenUpCalls {
                 return root;
             }
             letGoWithAll(root);
-            return madeByItself(scene.aimFunction, scene.aimArgument);
+            return make(scene.aimFunction, scene.aimArgument, 1);
         }
 
         void letGoWithAll(Call c) {
@@ -835,9 +844,13 @@ public final class TakenUpCalls {
         private void goThrough(Call c) {
             c.beginDoing();
             int at = program.startOf(c.function);
-            // Skips go ahead alone, so that no body takes more steps than there are.
-            for (int taken = 0; taken < STEPS && program.stepAt(at) != END; taken++) {
-                at = takeStep(c, at);
+            // Skips only go forward, so no body takes more steps than there are.
+            for (int taken = 0; taken < STEPS; taken++) {
+                int step = program.stepAt(at);
+                if (step == END) {
+                    break;
+                }
+                at = takeStep(c, step, at);
             }
             c.tells = pop();
             letGoChain(c.partsSoFar, null);
@@ -845,8 +858,7 @@ public final class TakenUpCalls {
         }
 
         /** The place of the step that comes then. */
-        private int takeStep(Call c, int at) {
-            int step = program.stepAt(at);
+        private int takeStep(Call c, int step, int at) {
             int v = program.valueAt(at);
             switch (step) {
                 case NUMBER: push(v); break;
@@ -865,7 +877,7 @@ public final class TakenUpCalls {
             int a = pop();
             switch (step) {
                 case SUM: push((a + b) % NUMBERS); break;
-                case LEFT_OVER: push((a - b + NUMBERS) % NUMBERS); break;
+                case DIFFERENCE: push((a - b + NUMBERS) % NUMBERS); break;
                 case PRODUCT: push(a * b % NUMBERS); break;
                 default: push(a < b ? 1 : 0); break;
             }
@@ -881,25 +893,22 @@ public final class TakenUpCalls {
             if (!program.tellsOf(f) || c.nest >= NESTS) {
                 return 0;
             }
-            Call part = takeUp(c, f, argument);
+            Call part = c.firstSoFar(f, argument);
             if (part == null) {
                 part = make(f, argument, c.nest + 1);
-            } else if (part.broughtBy != brings) {
-                bringUp(part);
+            } else {
+                takeUp(c, part);
             }
             c.addPart(part);
             return part.tells;
         }
 
-        private Call takeUp(Call c, int f, int argument) {
-            for (Call part = c.partsSoFar; part != null; part = part.next) {
-                if (part.isOf(f, argument)) {
-                    letGoChain(c.partsSoFar, part);
-                    c.partsSoFar = part.next;
-                    return part;
-                }
+        private void takeUp(Call c, Call part) {
+            letGoChain(c.partsSoFar, part);
+            c.partsSoFar = part.next;
+            if (part.broughtBy != brings) {
+                bringUp(part);
             }
-            return null;
         }
 
         private void letGoChain(Call from, Call end) {

@@ -282,6 +282,9 @@ public final class BringTest {
         for (int k = 0; k < 6; k++) {
             checks.dueCall("nest", x, k, 0, 0, 6 - k, k, 1, k - 1, k + 1, 0, k < 5 ? 1 : 0, 6 - k, 0);
         }
+        x.bring();
+        dueCounts("nest: what has the greatest stays, too", x, 0, 0, 0);
+        dueDoings("nest: what has the greatest stays, too", x, 1, 1, 1, 1, 1, 1);
         x = Checks.telling("d+x0f1n;df2n;df3n;df4n;d+x1f0x2;");
         checks.due("nest by five: calls", x.told(3), 6);
         checks.due("the argument of what is not made is not lost", x.call(4, 7), 6);
