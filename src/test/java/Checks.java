@@ -8,12 +8,22 @@ final class Checks {
 
     private int asked;
     private int wrong;
+    private String test = "";
+
+    /** What is asked from now on is told with the name of this test. */
+    void begin(String name) {
+        test = name.isEmpty() ? "" : name + ": ";
+    }
+
+    int asked() {
+        return asked;
+    }
 
     void due(String what, long got, long want) {
         asked++;
         if (got != want) {
             wrong++;
-            System.out.println(what + " answered " + got + ", due is " + want);
+            System.out.println(test + what + " answered " + got + ", due is " + want);
         }
     }
 
