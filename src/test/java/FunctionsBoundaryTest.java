@@ -231,6 +231,34 @@ public final class FunctionsBoundaryTest {
         }
     }
 
+    @Sentence(in = "Promise 3", says = "(all is as it was)")
+    static void functionsBehindATextThatEndsTooSoonAnywhere() {
+        String text = "d?x0+f1n2f2n;d*nf2-n1;d?n-x1n<n+4x2;";
+        String want = Boundaries.all(Checks.telling(text));
+        for (int cut = 0; cut < text.length(); cut++) {
+            TakenUpCalls x = new TakenUpCalls();
+            String begun = text.substring(0, cut);
+            boolean whole = begun.endsWith(";");
+            checks.due("functions() of '" + begun + "'", Checks.tell(x, begun), whole ? begun.split(";").length : -11);
+            checks.due("fault() of it", x.fault(), whole ? Checks.NONE : cut);
+            checks.due("functions() of all behind '" + begun + "'", Checks.tell(x, text), 3);
+            checks.dueTrue("all is as with a new object behind '" + begun + "'", Boundaries.all(x).equals(want));
+        }
+    }
+
+    @Sentence(in = "Promise 3", says = "(all is as it was)")
+    static void functionsBehindEachFault() {
+        String text = "d+f1x0x1;dx2;";
+        String want = Boundaries.all(Checks.telling(text));
+        for (String faulty : new String[] {"d?+n", "d+f0f0f0?nf5", "d1;d1;d1;d1;d1;d", "d+f0n+f0n+f0n+x0f"}) {
+            TakenUpCalls x = new TakenUpCalls();
+            Checks.tell(x, faulty);
+            checks.dueTrue("'" + faulty + "' has a FAULT", x.fault() != Checks.NONE);
+            checks.due("functions() behind '" + faulty + "'", Checks.tell(x, text), 2);
+            checks.dueTrue("all is as with a new object behind '" + faulty + "'", Boundaries.all(x).equals(want));
+        }
+    }
+
     private static TakenUpCalls worn() {
         TakenUpCalls x = Checks.telling("d+f1x0x1;dx2;");
         x.set(0, 4);

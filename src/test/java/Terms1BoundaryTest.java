@@ -139,6 +139,58 @@ public final class Terms1BoundaryTest {
         checks.due("fault()", x.fault(), 160);
     }
 
+    /** A text of 160 letters, blanks ahead of its end where the body is shorter. */
+    private static String filled(String body) {
+        return "d" + body + " ".repeat(158 - body.length()) + ";";
+    }
+
+    private static void dueFilledTells(String body, int want) {
+        checks.due("'" + body + "'", Checks.telling(filled(body)).told(2), want);
+    }
+
+    @Sentence(in = "Terms 1", says = "a text (160 letters at most)")
+    static void textOf160LettersWithAsManyChoicesAsItHolds() {
+        dueFilledTells("?".repeat(52) + "0" + "90".repeat(51) + "97", 7);
+        dueFilledTells("?1".repeat(52) + "7" + "2".repeat(52), 7);
+        dueFilledTells("?02".repeat(52) + "7", 7);
+    }
+
+    @Sentence(in = "Terms 1", says = "a text (160 letters at most)")
+    static void textOf160LettersWithTermsInTermsAsDeepAsItHolds() {
+        TakenUpCalls x = Checks.telling(filled("x".repeat(157) + "0"));
+        for (int i = 0; i < 8; i++) {
+            x.set(i, i + 1);
+        }
+        checks.due("CELL 0 tells 1, CELL 1 tells 2 and on, 157 times", x.bring(), 157 % 8);
+    }
+
+    @Sentence(in = "Terms 1", says = "a text (160 letters at most)")
+    static void textOf160LettersWithSumsBegunInEachOfSixCalls() {
+        dueFilledTells("+1".repeat(77) + "f0n", 6 * 77);
+        dueFilledTells("+1".repeat(76) + "+f0n1", 6 * 77);
+    }
+
+    @Sentence(in = "Terms 1", says = "a text (160 letters at most)")
+    static void textsOf160LettersOneBehindTheOther() {
+        TakenUpCalls x = new TakenUpCalls();
+        String choices = filled("?02".repeat(52) + "7");
+        for (int n = 1; n <= 3; n++) {
+            checks.due("functions(), time " + n, Checks.tell(x, choices), 1);
+            checks.due("told(2), time " + n, x.told(2), 7);
+        }
+    }
+
+    @Sentence(in = "Terms 1", says = "a text (160 letters at most)")
+    static void textOf160LettersBehindTwoWithAFault() {
+        TakenUpCalls x = new TakenUpCalls();
+        String choices = filled("?02".repeat(52) + "7");
+        for (int n = 1; n <= 2; n++) {
+            checks.due("functions() without its end, time " + n, Checks.tell(x, choices.replace(';', ' ')), -11);
+        }
+        checks.due("functions()", Checks.tell(x, choices), 1);
+        checks.due("told(2)", x.told(2), 7);
+    }
+
     @Sentence(in = "Terms 1", says = "for each, in order, 'd', its BODY, ';'.")
     static void functionsInOrder() {
         TakenUpCalls x = Checks.telling("d5;d6;d7;d8;d9;");
