@@ -15,6 +15,7 @@ public final class FaceTest {
     public static void main(String[] args) {
         constants();
         members();
+        faceOfTheDocument();
         newObject();
         newObjectsAreApart();
         checks.finish();
@@ -59,6 +60,31 @@ public final class FaceTest {
         Constructor<?>[] constructors = face.getDeclaredConstructors();
         checks.dueTrue("one public constructor without arguments", constructors.length == 1
             && Modifier.isPublic(constructors[0].getModifiers()) && constructors[0].getParameterCount() == 0);
+    }
+
+    /** Each line of the face that the document shows, and no other. */
+    private static void faceOfTheDocument() {
+        String section = Boundaries.sections().getOrDefault("The public face", "");
+        Set<String> due = new TreeSet<>();
+        for (String part : section.replaceAll(".*```java|```.*", "").split("[{};]")) {
+            if (!part.isBlank()) {
+                due.add(withoutNames(part.strip()));
+            }
+        }
+        Set<String> face = new TreeSet<>(List.of(Modifier.toString(TakenUpCalls.class.getModifiers()) + " class TakenUpCalls", "public TakenUpCalls()",
+            "public static final int NONE = " + TakenUpCalls.NONE + ", UNKNOWN = " + TakenUpCalls.UNKNOWN + ", OUTSIDE = " + TakenUpCalls.OUTSIDE
+            + ", NOT = " + TakenUpCalls.NOT + ", FULL = " + TakenUpCalls.FULL));
+        for (Method m : TakenUpCalls.class.getDeclaredMethods()) {
+            if (isOpen(m)) {
+                face.add(m.toString().replace("TakenUpCalls.", "").replace(",", ", "));
+            }
+        }
+        checks.dueTrue("the face " + face + ", the document's is " + due, face.equals(due));
+    }
+
+    /** The names of parameters aren't kept in a compiled class. */
+    private static String withoutNames(String method) {
+        return method.replaceAll("\\bint \\w+(?=[,)])", "int");
     }
 
     private static boolean isOpen(Member m) {

@@ -5,16 +5,17 @@ import java.util.TreeMap;
 import java.util.TreeSet;
 
 /**
- * Every part of the document has boundary tests, their names are apart, and no sentence of "Terms" 1 to 3
- * or of a promise is left without one.
+ * Every part of the document has boundary tests, their names are apart, and no sentence of "What it is", of
+ * "Terms" or of a promise is left without one. ("The public face" as a whole is held by FaceTest.)
  */
 public final class SentencesTest {
     private static final Class<?>[] TESTS = {
-        Terms1BoundaryTest.class, Terms2BoundaryTest.class, Terms3BoundaryTest.class, RefusalsBoundaryTest.class,
+        OverviewBoundaryTest.class, Terms1BoundaryTest.class, Terms2BoundaryTest.class, Terms3BoundaryTest.class, RefusalsBoundaryTest.class,
         FunctionsBoundaryTest.class, DeedsBoundaryTest.class, BookBoundaryTest.class, ImagesBoundaryTest.class,
     };
-    /** What says nothing of its own: headings, a promise's line of the face, marks of a text, the captions of the interface. */
-    private static final String FRAME = "## Promise \\d+: [\\w ]+ `[^`]*`: |======== \\d |```(text)?|Ahead of the calls `.*";
+    /** What says nothing of its own: headings, a promise's line of the face, marks of a text, the captions of the interface, how words are told. */
+    private static final String FRAME = "## Promise \\d+: [\\w ]+ `[^`]*`: |## What it is|## Terms|======== \\d |```(text)?"
+        + "|Ahead of the calls `.*|Words in capitals are told where they come first\\.";
 
     private static final Checks checks = new Checks();
 
@@ -25,6 +26,8 @@ public final class SentencesTest {
         for (int n = 1; n <= 18; n++) {
             dueAllSaid("Promise " + n, sections, quoted);
         }
+        dueAllSaid("What it is", sections, quoted);
+        dueAllSaid("Terms", sections, quoted);
         for (int n = 1; n <= 3; n++) {
             dueAllSaid("Terms " + n, sections, quoted);
         }
